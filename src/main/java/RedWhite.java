@@ -11,6 +11,7 @@ public final class RedWhite {
     private static final int MOST_CARS = 12;
     private static final int MOST_GOAL = 9;
     private static final int MOST_START = 8;
+    private static final int MOST_WORTH = 3;
     private static final int DOZEN = 12;
     /** Grey stands behind the colours in a land's row of cars. */
     private static final int GREY = MOST_COLOURS;
@@ -18,6 +19,8 @@ public final class RedWhite {
     /** Scores below the goal are 0 to 8, so a table of three scores has 9 to each side. */
     private static final int SIDE = 9;
     private static final int TABLE = SIDE * SIDE * SIDE;
+    /** How far apart two neighbouring scores of a player stand in such a table. */
+    private static final int[] STEPS = {81, 9, 1};
     /** The powers of 12: every chance is so many ways of these, and all fit a long. */
     private static final long[] TWELVES = {
         1L, 12L, 144L, 1728L, 20736L, 248832L, 2985984L, 35831808L, 429981696L,
@@ -800,8 +803,9 @@ public final class RedWhite {
     /** What a road's text tells. It does not change once it has been read. */
     private static final class Road {
         private final long[] colourNames = new long[MOST_COLOURS];
-        private final int[] worth = new int[MOST_COLOURS];
-        private final boolean[] ends = new boolean[MOST_COLOURS];
+        /** Grey has its place among these too: it is worth nothing and never ends it. */
+        private final int[] worth = new int[KINDS];
+        private final boolean[] ends = new boolean[KINDS];
         private final long[] landNames = new long[MOST_LANDS];
         /** Without lands the first row stands for everywhere: all grey, with a chance of 1. */
         private final int[] chances = {1, 0, 0};
@@ -836,10 +840,6 @@ public final class RedWhite {
 
         boolean hasPlayer(int p) {
             return p >= 0 && p < players;
-        }
-
-        boolean endsWith(int kind) {
-            return hasColour(kind) && ends[kind];
         }
 
         int rows() {
@@ -951,7 +951,7 @@ public final class RedWhite {
                 return false;
             }
             road.colourNames[road.colours] = tape.name;
-            if (!readNumber(1, 3)) {
+            if (!readNumber(1, MOST_WORTH)) {
                 return false;
             }
             road.worth[road.colours] = tape.value;
@@ -1417,9 +1417,11 @@ public final class RedWhite {
             age++;
             came = other.came;
             System.arraycopy(other.cars, 0, cars, 0, MOST_CARS);
-            System.arraycopy(other.own, 0, own, 0, MOST_PLAYERS);
-            System.arraycopy(other.turned, 0, turned, 0, MOST_PLAYERS);
-            System.arraycopy(other.score, 0, score, 0, MOST_PLAYERS);
+            for (int p = 0; p < MOST_PLAYERS; p++) {
+                own[p] = other.own[p];
+                turned[p] = other.turned[p];
+                score[p] = other.score[p];
+            }
         }
 
         int holderOf(int c) {
@@ -1492,7 +1494,7 @@ public final class RedWhite {
             if (came >= road.mostCars || atGoal() != NONE) {
                 return true;
             }
-            return came > 0 && came <= MOST_CARS && road.endsWith(cars[came - 1]);
+            return came > 0 && came <= MOST_CARS && road.ends[kindOf(cars[came - 1])];
         }
 
         int winner() {
@@ -1777,18 +1779,19 @@ public final class RedWhite {
 
         /** One car, the t-th from now, in a land: from the highest scores down, as those it leads to are done then. */
         private void passCars(int l, int t) {
-            for (int a = range[0] - 1; a >= 0; a--) {
+            int reach = (t - 1) * MOST_WORTH + 1;
+            for (int a = Math.min(range[0], reach) - 1; a >= 0; a--) {
                 gained[0] = a;
-                for (int b = range[1] - 1; b >= 0; b--) {
+                for (int b = Math.min(range[1], reach) - 1; b >= 0; b--) {
                     gained[1] = b;
-                    for (int d = range[2] - 1; d >= 0; d--) {
+                    for (int d = Math.min(range[2], reach) - 1; d >= 0; d--) {
                         gained[2] = d;
                         int at = (a * SIDE + b) * SIDE + d;
                         long here = ways[at];
                         ways[at] = 0;
                         for (int c = 0; c < KINDS && here != 0; c++) {
                             if (road.cars[l][c] > 0) {
-                                passCar(c, here * road.cars[l][c], t);
+                                passCar(at, c, here * road.cars[l][c], t);
                             }
                         }
                     }
@@ -1796,23 +1799,24 @@ public final class RedWhite {
             }
         }
 
-        private void passCar(int c, long some, int t) {
+        private void passCar(int at, int c, long some, int t) {
             int p = holder[c];
-            int more = road.hasPlayer(p) ? road.worth[c] : 0;
+            int more = p == NONE ? 0 : road.worth[c];
+            if (p != NONE && score[p] + gained[p] + more >= aim) {
+                credit(p, some, t);
+            } else if (t == rest || road.ends[c]) {
+                credit(leaderBy(p, more), some, t);
+            } else {
+                ways[p == NONE ? at : at + more * STEPS[p]] += some;
+            }
+        }
+
+        /** Who alone has most, if a player got so many more. */
+        private int leaderBy(int p, int more) {
             for (int i = 0; i < MOST_PLAYERS; i++) {
                 reached[i] = score[i] + gained[i] + (i == p ? more : 0);
             }
-            if (more > 0 && reached[p] >= aim) {
-                credit(p, some, t);
-            } else if (t == rest || road.endsWith(c)) {
-                credit(soleLeader(reached, road.players), some, t);
-            } else {
-                int at = 0;
-                for (int i = 0; i < MOST_PLAYERS; i++) {
-                    at = at * SIDE + reached[i] - score[i];
-                }
-                ways[at] += some;
-            }
+            return soleLeader(reached, road.players);
         }
 
         /** It is over by the t-th car: the cars that would follow count as they may. */
@@ -1950,6 +1954,8 @@ public final class RedWhite {
         private final int[] reached = new int[MOST_PLAYERS];
         private final int[] many = new int[KINDS];
         private final long[] firstWeight = new long[MOST_LANDS];
+        /** What a land's weight becomes by so many cars of a kind. */
+        private final long[][] powers = new long[MOST_LANDS * KINDS][MOST_CARS + 1];
         private final long[] weight = new long[MOST_LANDS];
         private final long[] values = new long[MIXES];
         private final long[][] tables = new long[MOST_FREE * MOST_LANDS][TABLE];
@@ -1995,8 +2001,19 @@ public final class RedWhite {
             }
             for (int l = 0; l < road.rows(); l++) {
                 firstWeight[l] = trip.weightOf(l);
+                fillPowers(l);
             }
             all = trip.allWeights() * TWELVES[rest];
+        }
+
+        private void fillPowers(int l) {
+            for (int c = 0; c < KINDS; c++) {
+                long[] row = powers[l * KINDS + c];
+                row[0] = 1;
+                for (int n = 1; n <= MOST_CARS; n++) {
+                    row[n] = row[n - 1] * road.cars[l][c];
+                }
+            }
         }
 
         /** How often a colour can come without its being over. */
@@ -2011,30 +2028,49 @@ public final class RedWhite {
         /** Ways to win in a land with r cars to come, if he has turned to the j-th free colour. */
         private void fillTable(int j, int l, int r) {
             long[] table = tables[j * MOST_LANDS + l];
-            for (int a = 0; a < range[0]; a++) {
-                for (int b = 0; b < range[1]; b++) {
-                    for (int d = 0; d < range[2]; d++) {
-                        reached[0] = score[0] + a;
-                        reached[1] = score[1] + b;
+            int reach = (rest - r) * MOST_WORTH + 1;
+            for (int a = 0; a < range[0] && a < reach; a++) {
+                reached[0] = score[0] + a;
+                for (int b = 0; b < range[1] && b < reach; b++) {
+                    reached[1] = score[1] + b;
+                    for (int d = 0; d < range[2] && d < reach; d++) {
                         reached[2] = score[2] + d;
-                        table[scoreIndex()] = waysOn(table, free[j], l, r);
+                        int at = (a * SIDE + b) * SIDE + d;
+                        table[at] = waysFrom(table, at, free[j], l, r);
                     }
                 }
             }
         }
 
-        private long waysOn(long[] table, int mine, int l, int r) {
+        private long waysFrom(long[] table, int at, int mine, int l, int r) {
             long sum = 0;
             for (int c = 0; c < KINDS; c++) {
                 int n = road.cars[l][c];
                 if (n > 0) {
                     int p = c == mine ? me : holder[c] == me ? NONE : holder[c];
-                    gain(p, c, 1);
-                    sum += n * (isOverBy(p, c, r) ? waysDone(p, r) : table[scoreIndex()]);
-                    gain(p, c, -1);
+                    long done = waysDone(p, c, r);
+                    if (done == NONE) {
+                        done = table[p == NONE ? at : at + road.worth[c] * STEPS[p]];
+                    }
+                    sum += n * done;
                 }
             }
             return sum;
+        }
+
+        /** Ways to win, if it is over by a car that p counts, with all cars that would follow; NONE: it goes on. */
+        private long waysDone(int p, int c, int r) {
+            int winner;
+            if (p != NONE && reached[p] + road.worth[c] >= road.aim) {
+                winner = p;
+            } else if (r == 1 || road.ends[c]) {
+                gain(p, c, 1);
+                winner = soleLeader(reached, road.players);
+                gain(p, c, -1);
+            } else {
+                return NONE;
+            }
+            return winner == me ? TWELVES[r - 1] : 0;
         }
 
         private void gain(int p, int c, int times) {
@@ -2043,21 +2079,10 @@ public final class RedWhite {
             }
         }
 
-        private boolean isOverBy(int p, int c, int r) {
-            return r == 1 || p != NONE && reached[p] >= road.aim || road.endsWith(c);
-        }
-
-        /** It is over by a car of p's: all ways of those that would follow, or none. */
-        private long waysDone(int p, int r) {
-            boolean goalMet = p != NONE && reached[p] >= road.aim;
-            int winner = goalMet ? p : soleLeader(reached, road.players);
-            return winner == me ? TWELVES[r - 1] : 0;
-        }
-
         private int scoreIndex() {
             int at = 0;
             for (int p = 0; p < MOST_PLAYERS; p++) {
-                at = at * SIDE + reached[p] - score[p];
+                at += (reached[p] - score[p]) * STEPS[p];
             }
             return at;
         }
@@ -2083,13 +2108,13 @@ public final class RedWhite {
 
         private void valueMix(int r) {
             weighMix();
-            long wait = waitValue(r);
-            long most = wait;
+            int at = scoreIndex();
+            long most = waitValue(r);
             int to = NONE;
             for (int j = 0; j < frees; j++) {
                 long turning = 0;
                 for (int l = 0; l < road.rows(); l++) {
-                    turning += weight[l] * tables[j * MOST_LANDS + l][scoreIndex()];
+                    turning += weight[l] * tables[j * MOST_LANDS + l][at];
                 }
                 if (turning > most) {
                     most = turning;
@@ -2111,9 +2136,7 @@ public final class RedWhite {
             for (int l = 0; l < road.rows(); l++) {
                 weight[l] = firstWeight[l];
                 for (int c = 0; c < KINDS; c++) {
-                    for (int i = 0; i < many[c]; i++) {
-                        weight[l] *= road.cars[l][c];
-                    }
+                    weight[l] *= powers[l * KINDS + c][many[c]];
                 }
             }
         }
@@ -2126,16 +2149,14 @@ public final class RedWhite {
                     some += weight[l] * road.cars[l][c];
                 }
                 if (some > 0) {
-                    int p = holder[c];
-                    gain(p, c, 1);
-                    if (isOverBy(p, c, r)) {
-                        sum += some * waysDone(p, r);
-                    } else {
+                    long done = waysDone(holder[c], c, r);
+                    if (done == NONE) {
                         many[c]++;
                         sum += values[mixIndex()];
                         many[c]--;
+                    } else {
+                        sum += some * done;
                     }
-                    gain(p, c, -1);
                 }
             }
             return sum;
