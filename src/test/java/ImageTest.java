@@ -41,6 +41,7 @@ final class ImageTest {
         t.due("its names are known", t.log(x, "q takes a;comes a;", 1), -1);
         t.due("score", x.player(1, 0), 2);
         t.due("restore again", x.restore(1), true);
+        t.due("nothing can be undone", x.undo(), -1);
         t.due("as it was", x.player(1, 0), 0);
         t.due("q has none", x.player(1, 2), -1);
         t.logFault(x, "zoe takes a;", 3, 0);

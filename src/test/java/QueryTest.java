@@ -9,6 +9,7 @@ final class QueryTest {
         noPlayers(t);
         overAlready(t);
         likelihoods(t);
+        fresh(t);
         lengths(t);
         choices(t);
         fairness(t);
@@ -114,6 +115,36 @@ final class QueryTest {
         t.fraction("luck by fire", x.luck(0), x.luck(1), 18, 432);
     }
 
+    /** Each answer is by how it is now, whichever call came ahead of it. */
+    private static void fresh(Checks t) {
+        RedWhite x = t.on("colour a 1;colour b 3;land l 1 a 3 b 9;player p 0;player q 0;goal 3;change;");
+        t.due("favourite at first", x.favourite(), 0);
+        x.take(1, 1);
+        t.due("favourite by b", x.favourite(), 1);
+        x.undo();
+        t.due("favourite when undone", x.favourite(), 0);
+        x.take(0, 0);
+        t.fraction("also at once", x.also(0, 1, 0), x.also(0, 1, 1), x.likely(0, 1) - x.likely(0, 0), x.likely(0, 1));
+        t.due("best", x.best(0), 1);
+        t.due("chosen", x.chosen(1), 1);
+        x.turn(0, 1);
+        t.due("chosen then", x.chosen(1), 0);
+        t.due("best then", x.best(0), -1);
+        t.due("right then", x.right(0, 0), x.likely(0, 0));
+        t.due("chance then", x.chance(0, 0) > 0, true);
+        x.come(1);
+        t.fraction("chance at last", x.chance(0, 0), x.chance(0, 1), 1, 1);
+        t.fraction("left at last", x.left(0), x.left(1), 0, 1);
+        x.undo();
+        t.due("over behind none", x.over(0, 0), 0);
+        t.log(x, "comes b;", 1);
+        t.due("over by a log", x.over(0, 0), 1);
+        x.undo();
+        t.due("nobody", x.nobody(0) < x.nobody(1), true);
+        x.drawn(1);
+        t.due("over by draws", x.over(0, 0), 1);
+    }
+
     private static void lengths(Checks t) {
         RedWhite x = t.on("colour a 1;land l 1 a 6;player p 0;goal 2;cars 3;");
         x.take(0, 0);
@@ -141,6 +172,11 @@ final class QueryTest {
         t.due("which instead of his own", x.which(2), 0);
         x.take(0, 0);
         t.due("no free one", x.which(2), -1);
+        // Instead of his own, not with it: by both it would be d, which is where a is not.
+        RedWhite own = t.on("colour a 1;colour b 1;colour d 1;land l 1 a 6 b 6;land m 1 d 5;player p 0;player q 0;goal 1;cars 3;");
+        own.take(0, 0);
+        t.due("which without his own", own.which(0), 1);
+        t.due("with his own it would be d", own.also(0, 2, 0) * own.also(0, 1, 1) > own.also(0, 1, 0) * own.also(0, 2, 1), true);
         RedWhite y = t.on("colour a 1;colour b 1;colour d 1;land l 1 a 3 b 3 d 3;player p 0;player q 0;");
         t.due("of like ones the first", y.chosen(0), 0);
         t.due("of like ones the next", y.chosen(1), 1);
@@ -165,6 +201,12 @@ final class QueryTest {
         RedWhite none = t.on("colour a 1;land l 1 a 4;player p 2;player q 2;");
         t.due("without colours", none.fair(0), 2);
         t.due("goal without colours: like at any", none.goal(), 3);
+        RedWhite far = t.on("colour a 1;colour b 3;land l 1 a 1 b 4;player p 8;player q 0;");
+        far.take(0, 0);
+        far.take(1, 1);
+        t.due("fair goal 9", far.goal(), 9);
+        t.due("fair start 8", t.on("player p 1;player q 8;").fair(0), 8);
+        t.due("fair start 0", t.on("player p 1;player q 0;").fair(0), 0);
         RedWhite one = t.on("colour a 1;land l 1 a 4;player p 2;");
         t.due("one player", one.fair(0), -1);
         t.due("one player", one.goal(), -1);
@@ -219,6 +261,8 @@ final class QueryTest {
             t.due("right is no less", x.right(p, 0) / (double) x.right(p, 1) >= x.likely(p, 0) / (double) x.likely(p, 1), true);
         }
         t.due("all together", sum, below);
+        t.due("not all are over behind 11", x.over(11, 0) < x.over(11, 1), true);
+        t.fraction("over behind 12", x.over(12, 0), x.over(12, 1), 1, 1);
         for (int i = 0; i < 12; i++) {
             x.come(i % 4);
         }

@@ -137,6 +137,7 @@ final class RoadTest {
         t.roadFault(x, Checks.repeat(" ", 890) + "colour abcdefg 1;", 1, 900);
         t.roadFault(x, "goal 1;" + Checks.repeat(" ", 888) + "goal 12345", 3, 895);
         t.roadFault(x, Checks.repeat(" ", 894) + "cars 13;", 2, 899);
+        t.roadFault(x, "goal 1;" + Checks.repeat(" ", 893) + "goal 1;", 1, 900);
         t.roadFault(x, "Goal 1;" + Checks.repeat(" ", 894), 1, 0);
     }
 

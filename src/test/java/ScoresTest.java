@@ -42,6 +42,10 @@ final class ScoresTest {
         t.due("the tape is empty", x.count(6), 0);
         t.due("none told", x.scores(), -1);
         t.due("it stays", x.took(0), 1);
+        Checks.tell(x, "player p 0;player q 0;player r 0;");
+        t.due("another road", x.road(), 3);
+        t.due("it stays", x.took(0), 1);
+        t.due("who was not there took none", x.took(2), -1);
         RedWhite none = t.on("colour a 1;");
         t.due("no players", none.scores(), -1);
         RedWhite few = t.on("colour a 1;player p 0;player q 0;");

@@ -58,6 +58,10 @@ final class SentenceTest {
         RedWhite x = t.on(ROAD);
         String twenty = Checks.repeat("won or ", 19) + "won";
         t.due("20 ones", t.sentence(x, twenty), 20);
+        said(t, x, Checks.repeat("won or ", 19) + "leads", 2);
+        said(t, x, Checks.repeat("leads and ", 19) + "leads", 2);
+        said(t, x, Checks.repeat("leads and ", 19) + "won", 0);
+        said(t, x, "won or(won or(won or(won or(won or(won or(won or leads))))))", 2);
         t.sentenceFault(x, twenty + " or won", 4, 140);
         t.sentenceFault(x, twenty + " or has z", 4, 140);
         t.sentenceFault(x, twenty + " or z", 1, 140);
