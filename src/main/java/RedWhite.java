@@ -610,8 +610,7 @@ public final class RedWhite {
                 }
             } else if (!trip.road.hasColour(c) || (used >> c & 1) == 1 || claimed[p] != scoreBy(p, c)) {
                 return false;
-            }
-            if (p < trip.road.players) {
+            } else {
                 used |= 1 << c;
             }
         }
@@ -709,6 +708,7 @@ public final class RedWhite {
                 kind = END;
             } else if (goesOn(byteAt(at))) {
                 readRun();
+                key = kind == WORD ? keyOf(name) : NO_KEY;
             } else {
                 value = byteAt(at);
                 kind = isMarkSign(value) ? MARK : STRANGE;
@@ -722,7 +722,7 @@ public final class RedWhite {
             while (at < length && goesOn(byteAt(at))) {
                 int sign = byteAt(at);
                 at++;
-                if (isLetter(sign)) {
+                if (sign >= 'a') {
                     letters++;
                     name = name * 32 + (sign - 'a' + 1);
                 } else {
@@ -733,7 +733,6 @@ public final class RedWhite {
             kind = STRANGE;
             if (digits == 0 && letters <= MOST_LETTERS) {
                 kind = WORD;
-                key = keyOf(name);
             } else if (letters == 0 && digits <= MOST_DIGITS) {
                 kind = NUMBER;
             }
@@ -760,12 +759,8 @@ public final class RedWhite {
             return sign == ' ' || sign == '\n';
         }
 
-        private static boolean isLetter(int sign) {
-            return sign >= 'a' && sign <= 'z';
-        }
-
         private static boolean goesOn(int sign) {
-            return isLetter(sign) || sign >= '0' && sign <= '9';
+            return sign >= 'a' && sign <= 'z' || sign >= '0' && sign <= '9';
         }
 
         private static boolean isMarkSign(int sign) {
@@ -909,38 +904,47 @@ public final class RedWhite {
             tape.open(ROAD_BYTES);
             tape.advance();
             for (int i = 0; i < ROAD_BYTES && !tape.isEnd(); i++) {
-                if (!readLine()) {
+                boolean good;
+                switch (tape.key) {
+                    case KEY_COLOUR:
+                        good = readColour();
+                        break;
+                    case KEY_ENDS:
+                        good = readEnds();
+                        break;
+                    case KEY_LAND:
+                        good = readLand();
+                        break;
+                    case KEY_PLAYER:
+                        good = readPlayer();
+                        break;
+                    case KEY_GOAL:
+                        good = readGoal();
+                        break;
+                    case KEY_CARS:
+                        good = readCars();
+                        break;
+                    case KEY_CHANGE:
+                        good = readChange();
+                        break;
+                    default:
+                        good = tape.refuse(STRANGE_TOKEN);
+                        break;
+                }
+                if (!good || !readClosing()) {
                     return null;
                 }
-                if (!tape.isMark(';')) {
-                    tape.refuse(STRANGE_TOKEN);
-                    return null;
-                }
-                road.lines++;
-                tape.advance();
             }
             return road;
         }
 
-        private boolean readLine() {
-            switch (tape.key) {
-                case KEY_COLOUR:
-                    return readColour();
-                case KEY_ENDS:
-                    return readEnds();
-                case KEY_LAND:
-                    return readLand();
-                case KEY_PLAYER:
-                    return readPlayer();
-                case KEY_GOAL:
-                    return readGoal();
-                case KEY_CARS:
-                    return readCars();
-                case KEY_CHANGE:
-                    return readChange();
-                default:
-                    return tape.refuse(STRANGE_TOKEN);
+        private boolean readClosing() {
+            if (!tape.isMark(';')) {
+                return tape.refuse(STRANGE_TOKEN);
             }
+            road.lines++;
+            tape.advance();
+            return true;
         }
 
         private boolean readColour() {
@@ -1805,18 +1809,13 @@ public final class RedWhite {
             if (p != NONE && score[p] + gained[p] + more >= aim) {
                 credit(p, some, t);
             } else if (t == rest || road.ends[c]) {
-                credit(leaderBy(p, more), some, t);
+                for (int i = 0; i < MOST_PLAYERS; i++) {
+                    reached[i] = score[i] + gained[i] + (i == p ? more : 0);
+                }
+                credit(soleLeader(reached, road.players), some, t);
             } else {
                 ways[p == NONE ? at : at + more * STEPS[p]] += some;
             }
-        }
-
-        /** Who alone has most, if a player got so many more. */
-        private int leaderBy(int p, int more) {
-            for (int i = 0; i < MOST_PLAYERS; i++) {
-                reached[i] = score[i] + gained[i] + (i == p ? more : 0);
-            }
-            return soleLeader(reached, road.players);
         }
 
         /** It is over by the t-th car: the cars that would follow count as they may. */
