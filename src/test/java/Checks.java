@@ -69,6 +69,19 @@ final class Checks {
         due("tape behind sentence " + text, x.count(6), 0);
     }
 
+    /** The fault of a road's text by a new object, which has had few calls then. */
+    void roadFault(String text, int kind, int place) {
+        roadFault(new RedWhite(), text, kind, place);
+    }
+
+    void logFault(String road, String text, int kind, int place) {
+        logFault(on(road), text, kind, place);
+    }
+
+    void sentenceFault(String road, String text, int kind, int place) {
+        sentenceFault(on(road), text, kind, place);
+    }
+
     int log(RedWhite x, String text, int lives) {
         tell(x, text);
         return x.log(lives);

@@ -32,45 +32,45 @@ final class RoadTest {
 
     private static void strangeTokens(Checks t) {
         RedWhite x = new RedWhite();
-        t.roadFault(x, "Goal 1;", 1, 0);
-        t.roadFault(x, "goal 1;;", 1, 7);
-        t.roadFault(x, ";", 1, 0);
-        t.roadFault(x, "goal 1", 1, 6);
-        t.roadFault(x, "goal 1  ", 1, 8);
-        t.roadFault(x, "goal", 1, 4);
-        t.roadFault(x, "goal ;", 1, 5);
-        t.roadFault(x, "goal x;", 1, 5);
-        t.roadFault(x, "goal 123;", 1, 5);
-        t.roadFault(x, "goal 001;", 1, 5);
-        t.roadFault(x, "goal 1a;", 1, 5);
-        t.roadFault(x, "goal1;", 1, 0);
-        t.roadFault(x, "goal\t1;", 1, 4);
-        t.roadFault(x, "goal -1;", 1, 5);
-        t.roadFault(x, "goal 1.", 1, 6);
-        t.roadFault(x, "goal 1 2;", 1, 7);
-        t.roadFault(x, "change 1;", 1, 7);
-        t.roadFault(x, "colour abcdefgh 1;", 1, 7);
-        t.roadFault(x, "colour 1 1;", 1, 7);
-        t.roadFault(x, "colour a;", 1, 8);
-        t.roadFault(x, "colour a b;", 1, 9);
-        t.roadFault(x, "ends 1;", 1, 5);
-        t.roadFault(x, "colour a 1;ends a 1;", 1, 18);
-        t.roadFault(x, "land l;", 1, 6);
-        t.roadFault(x, "colour a 1;land l 1 a;", 1, 21);
-        t.roadFault(x, "colour a 1;land l 1 1;", 1, 20);
-        t.roadFault(x, "colour a 1;land l 1 a 1 1;", 1, 24);
-        t.roadFault(x, "colour a 1;land l 1 grey 1;", 1, 20);
-        t.roadFault(x, FOUR + "land l 1 a 1 b 1 d 1 e 1 1;", 1, 69);
-        t.roadFault(x, FOUR + "land l 1 a 1 b 1 d 1 e 1 goal;", 1, 69);
-        t.roadFault(x, "foo 1;", 1, 0);
-        t.roadFault(x, "takes a;", 1, 0);
-        t.roadFault(x, "(", 1, 0);
-        t.roadFault(x, "colour a 1;a 1;", 1, 11);
+        t.roadFault("Goal 1;", 1, 0);
+        t.roadFault("goal 1;;", 1, 7);
+        t.roadFault(";", 1, 0);
+        t.roadFault("goal 1", 1, 6);
+        t.roadFault("goal 1  ", 1, 8);
+        t.roadFault("goal", 1, 4);
+        t.roadFault("goal ;", 1, 5);
+        t.roadFault("goal x;", 1, 5);
+        t.roadFault("goal 123;", 1, 5);
+        t.roadFault("goal 001;", 1, 5);
+        t.roadFault("goal 1a;", 1, 5);
+        t.roadFault("goal1;", 1, 0);
+        t.roadFault("goal\t1;", 1, 4);
+        t.roadFault("goal -1;", 1, 5);
+        t.roadFault("goal 1.", 1, 6);
+        t.roadFault("goal 1 2;", 1, 7);
+        t.roadFault("change 1;", 1, 7);
+        t.roadFault("colour abcdefgh 1;", 1, 7);
+        t.roadFault("colour 1 1;", 1, 7);
+        t.roadFault("colour a;", 1, 8);
+        t.roadFault("colour a b;", 1, 9);
+        t.roadFault("ends 1;", 1, 5);
+        t.roadFault("colour a 1;ends a 1;", 1, 18);
+        t.roadFault("land l;", 1, 6);
+        t.roadFault("colour a 1;land l 1 a;", 1, 21);
+        t.roadFault("colour a 1;land l 1 1;", 1, 20);
+        t.roadFault("colour a 1;land l 1 a 1 1;", 1, 24);
+        t.roadFault("colour a 1;land l 1 grey 1;", 1, 20);
+        t.roadFault(FOUR + "land l 1 a 1 b 1 d 1 e 1 1;", 1, 69);
+        t.roadFault(FOUR + "land l 1 a 1 b 1 d 1 e 1 goal;", 1, 69);
+        t.roadFault("foo 1;", 1, 0);
+        t.roadFault("takes a;", 1, 0);
+        t.roadFault("(", 1, 0);
+        t.roadFault("colour a 1;a 1;", 1, 11);
         for (String word : ("colour ends land player goal cars change takes turns comes grey or and not leads won has "
             + "turned score start needs number").split(" ")) {
-            t.roadFault(x, "colour " + word + " 1;", 1, 7);
-            t.roadFault(x, "land " + word + " 1;", 1, 5);
-            t.roadFault(x, "player " + word + " 1;", 1, 7);
+            t.roadFault("colour " + word + " 1;", 1, 7);
+            t.roadFault("land " + word + " 1;", 1, 5);
+            t.roadFault("player " + word + " 1;", 1, 7);
         }
         x.feed(0xE9000000, 0, 0, 0, 0);
         x.end(1);
@@ -79,66 +79,63 @@ final class RoadTest {
     }
 
     private static void wrongNumbers(Checks t) {
-        RedWhite x = new RedWhite();
-        t.roadFault(x, "colour a 0;", 2, 9);
-        t.roadFault(x, "colour a 4;", 2, 9);
-        t.roadFault(x, "land l 0;", 2, 7);
-        t.roadFault(x, "land l 10;", 2, 7);
-        t.roadFault(x, "player p 9;", 2, 9);
-        t.roadFault(x, "goal 0;", 2, 5);
-        t.roadFault(x, "goal 10;", 2, 5);
-        t.roadFault(x, "cars 0;", 2, 5);
-        t.roadFault(x, "cars 13;", 2, 5);
-        t.roadFault(x, "colour a 1;land l 1 a 0;", 2, 22);
-        t.roadFault(x, "colour a 1;land l 1 a 13;", 2, 22);
-        t.roadFault(x, "colour a 1;colour b 1;land l 1 a 12 b 1;", 2, 38);
-        t.roadFault(x, "colour a 1;colour b 1;land l 1 a 6 b 7;", 2, 37);
+        t.roadFault("colour a 0;", 2, 9);
+        t.roadFault("colour a 4;", 2, 9);
+        t.roadFault("land l 0;", 2, 7);
+        t.roadFault("land l 10;", 2, 7);
+        t.roadFault("player p 9;", 2, 9);
+        t.roadFault("goal 0;", 2, 5);
+        t.roadFault("goal 10;", 2, 5);
+        t.roadFault("cars 0;", 2, 5);
+        t.roadFault("cars 13;", 2, 5);
+        t.roadFault("colour a 1;land l 1 a 0;", 2, 22);
+        t.roadFault("colour a 1;land l 1 a 13;", 2, 22);
+        t.roadFault("colour a 1;colour b 1;land l 1 a 12 b 1;", 2, 38);
+        t.roadFault("colour a 1;colour b 1;land l 1 a 6 b 7;", 2, 37);
     }
 
     private static void wrongNames(Checks t) {
-        RedWhite x = new RedWhite();
-        t.roadFault(x, "colour a 1;colour a 1;", 3, 18);
-        t.roadFault(x, "colour a 1;land a 1;", 3, 16);
-        t.roadFault(x, "land a 1;player a 1;", 3, 16);
-        t.roadFault(x, "player a 1;colour a 1;", 3, 18);
-        t.roadFault(x, "ends a;", 3, 5);
-        t.roadFault(x, "land a 1;ends a;", 3, 14);
-        t.roadFault(x, "colour a 1;ends a;ends a;", 3, 23);
-        t.roadFault(x, "land l 1 a 1;", 3, 9);
-        t.roadFault(x, "land l 1 l 1;", 3, 9);
-        t.roadFault(x, "colour a 1;land l 1 a 1 a 1;", 3, 24);
-        t.roadFault(x, "colour a 1;player p 1;land l 1 p 1;", 3, 31);
-        t.roadFault(x, FOUR + "land l 1 a 1 b 1 d 1 e 1 a 1;", 3, 69);
-        t.roadFault(x, FOUR + "land l 1 a 1 b 1 d 1 e 1 z 1;", 3, 69);
-        t.roadFault(x, "goal 1;goal 1;", 3, 7);
-        t.roadFault(x, "cars 1;cars 99;", 3, 7);
-        t.roadFault(x, "change;change;", 3, 7);
+        t.roadFault("colour a 1;colour a 1;", 3, 18);
+        t.roadFault("colour a 1;land a 1;", 3, 16);
+        t.roadFault("land a 1;player a 1;", 3, 16);
+        t.roadFault("player a 1;colour a 1;", 3, 18);
+        t.roadFault("ends a;", 3, 5);
+        t.roadFault("land a 1;ends a;", 3, 14);
+        t.roadFault("colour a 1;ends a;ends a;", 3, 23);
+        t.roadFault("land l 1 a 1;", 3, 9);
+        t.roadFault("land l 1 l 1;", 3, 9);
+        t.roadFault("colour a 1;land l 1 a 1 a 1;", 3, 24);
+        t.roadFault("colour a 1;player p 1;land l 1 p 1;", 3, 31);
+        t.roadFault(FOUR + "land l 1 a 1 b 1 d 1 e 1 a 1;", 3, 69);
+        t.roadFault(FOUR + "land l 1 a 1 b 1 d 1 e 1 z 1;", 3, 69);
+        t.roadFault("goal 1;goal 1;", 3, 7);
+        t.roadFault("cars 1;cars 99;", 3, 7);
+        t.roadFault("change;change;", 3, 7);
     }
 
     private static void tooMany(Checks t) {
-        RedWhite x = new RedWhite();
-        t.roadFault(x, FOUR + "colour a 9;", 4, 44);
-        t.roadFault(x, "land a 1;land b 1;land d 1;land 1", 4, 27);
-        t.roadFault(x, "player a 0;player b 0;player d 0;player", 4, 33);
+        t.roadFault(FOUR + "colour a 9;", 4, 44);
+        t.roadFault("land a 1;land b 1;land d 1;land 1", 4, 27);
+        t.roadFault("player a 0;player b 0;player d 0;player", 4, 33);
     }
 
     private static void lengths(Checks t) {
         RedWhite x = new RedWhite();
         Checks.tell(x, "goal 1;" + Checks.repeat(" ", 893));
         t.due("900 bytes", x.road(), 1);
-        t.roadFault(x, "goal 1;" + Checks.repeat(" ", 894), 1, 900);
-        t.roadFault(x, Checks.repeat(" ", 940), 1, 900);
-        t.roadFault(x, Checks.repeat(" ", 894) + "goal 1;", 1, 900);
-        t.roadFault(x, Checks.repeat(" ", 899) + "goal 1;", 1, 900);
-        t.roadFault(x, Checks.repeat(" ", 898) + "foolish;", 1, 898);
-        t.roadFault(x, Checks.repeat(" ", 894) + "change 1;", 1, 900);
+        t.roadFault("goal 1;" + Checks.repeat(" ", 894), 1, 900);
+        t.roadFault(Checks.repeat(" ", 940), 1, 900);
+        t.roadFault(Checks.repeat(" ", 894) + "goal 1;", 1, 900);
+        t.roadFault(Checks.repeat(" ", 899) + "goal 1;", 1, 900);
+        t.roadFault(Checks.repeat(" ", 898) + "foolish;", 1, 898);
+        t.roadFault(Checks.repeat(" ", 894) + "change 1;", 1, 900);
         // A token that begins ahead of the end is read whole: this name is too long, at its place.
-        t.roadFault(x, Checks.repeat(" ", 890) + "colour abcdefgh 1;", 1, 897);
-        t.roadFault(x, Checks.repeat(" ", 890) + "colour abcdefg 1;", 1, 900);
-        t.roadFault(x, "goal 1;" + Checks.repeat(" ", 888) + "goal 12345", 3, 895);
-        t.roadFault(x, Checks.repeat(" ", 894) + "cars 13;", 2, 899);
-        t.roadFault(x, "goal 1;" + Checks.repeat(" ", 893) + "goal 1;", 1, 900);
-        t.roadFault(x, "Goal 1;" + Checks.repeat(" ", 894), 1, 0);
+        t.roadFault(Checks.repeat(" ", 890) + "colour abcdefgh 1;", 1, 897);
+        t.roadFault(Checks.repeat(" ", 890) + "colour abcdefg 1;", 1, 900);
+        t.roadFault("goal 1;" + Checks.repeat(" ", 888) + "goal 12345", 3, 895);
+        t.roadFault(Checks.repeat(" ", 894) + "cars 13;", 2, 899);
+        t.roadFault("goal 1;" + Checks.repeat(" ", 893) + "goal 1;", 1, 900);
+        t.roadFault("Goal 1;" + Checks.repeat(" ", 894), 1, 0);
     }
 
     private static void stays(Checks t) {
