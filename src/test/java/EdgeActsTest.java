@@ -674,6 +674,7 @@ final class EdgeActsTest {
             int kept = Math.min(acts, 8);
             for (int more = kept - 1; more >= 0; more--) {
                 t.due("of " + acts + " acts more", x.undo(), more);
+                t.due("of " + acts + " cars", x.now(0), acts - kept + more);
             }
             t.due("none", x.undo(), NONE);
             t.due("cars that stay", x.now(0), acts - kept);
@@ -1076,6 +1077,19 @@ final class EdgeActsTest {
             t.due("wrong line of " + log, t.log(x, log, lives), why == 0 ? NONE : lines - 1);
             t.due("why " + log, x.logged(0), why);
             t.due("lines that are not wrong of " + log, x.logged(1), why == 0 ? lines : lines - 1);
+            RedWhite y = t.on(road);
+            String good = why == 0 ? log : log.substring(0, log.lastIndexOf(';', log.length() - 2) + 1);
+            t.due("lived " + good, t.log(y, lives == 0 ? "" : good, 1), NONE);
+            alike(t, log, x, y);
+        }
+    }
+
+    private static void alike(Checks t, String log, RedWhite x, RedWhite y) {
+        t.due("cars of " + log, x.now(0), y.now(0));
+        for (int p = 0; p < x.count(2); p++) {
+            for (int what = 0; what < 4; what++) {
+                t.due("player " + p + " " + what + " of " + log, x.player(p, what), y.player(p, what));
+            }
         }
     }
 

@@ -19,6 +19,7 @@ final class EdgeChancesTest {
         noughtAndOne(t);
         neitherAboveNorBelow(t);
         throwingChangesNothing(t);
+        byTheRoadThatIsNow(t);
     }
 
     private static void odds(Checks t) {
@@ -35,6 +36,7 @@ final class EdgeChancesTest {
         overEdges(t);
         luckNotInLeastTerms(t);
         luckLongest(t);
+        exactAtAnyLength(t);
         favouriteOfLikeOnes(t);
         favouriteWithoutPlayers(t);
     }
@@ -68,6 +70,7 @@ final class EdgeChancesTest {
         rightNoSuch(t);
         rightOfOneWhoMayNot(t);
         rightToTheLastCar(t);
+        rightAtAnyLength(t);
         bestMayNot(t);
         bestOnlyIfLikelier(t);
         bestOfLikeOnes(t);
@@ -148,6 +151,45 @@ final class EdgeChancesTest {
         t.due("score", x.player(0, 0), 1);
         t.due("cars", x.now(0), 1);
         t.due("acts", x.undo(), 1);
+    }
+
+    /** What was told of one ROAD is not told of the next one, nor behind restoring another. */
+    private static void byTheRoadThatIsNow(Checks t) {
+        String head = "colour a 1;colour b 1;colour d 1;ends a;land l 1 a 6;player p 0;player q ";
+        RedWhite x = t.on(head + "1;cars 1;change;");
+        x.take(0, 1);
+        byQ(t, x, 1);
+        x.image(0);
+        Checks.tell(x, head + "0;cars 1;change;");
+        x.road();
+        x.take(0, 1);
+        byQ(t, x, 0);
+        x.image(1);
+        x.restore(0);
+        byQ(t, x, 1);
+        x.restore(1);
+        byQ(t, x, 0);
+        RedWhite y = new RedWhite();
+        t.due("no players: nobody", y.nobody(0), 1);
+        t.due("none chosen", y.chosen(0), NONE);
+        Checks.tell(y, "colour a 1;player p 0;");
+        y.road();
+        t.due("now there is one", y.nobody(0), 0);
+        t.due("he takes a", y.chosen(0), 0);
+        t.due("he wins then", y.chance(0, 0), 1);
+        t.due("favourite", y.favourite(), 0);
+        y.road();
+        t.due("no players again", y.nobody(0), 1);
+    }
+
+    /** With a start of 1 q is ahead, whatever p does; with 0 p may win by a. */
+    private static void byQ(Checks t, RedWhite x, int start) {
+        t.fraction("q", x.likely(1, 0), x.likely(1, 1), start, 1);
+        t.fraction("nobody", x.nobody(0), x.nobody(1), 1 - start, 1);
+        t.due("q takes", x.chosen(1), 0);
+        t.fraction("q by chance", x.chance(1, 0), x.chance(1, 1), 1, start == 1 ? 1 : 2);
+        t.due("p's best", x.best(0), start == 1 ? NONE : 0);
+        t.fraction("p's right", x.right(0, 0), x.right(0, 1), 1 - start, start == 1 ? 1 : 2);
     }
 
     /** 14: "NoSuchElementException: no such ones". */
@@ -325,6 +367,27 @@ final class EdgeChancesTest {
         t.fraction("sure", x.luck(0), x.luck(1), most, most);
         t.fraction("next", x.next(0, 0), x.next(0, 1), 1, 1);
         t.fraction("where", x.where(2, 0), x.where(2, 1), 1, 3);
+    }
+
+    /** "All these are exact": by halves, for as many cars as there may be, from each of them on. */
+    private static void exactAtAnyLength(Checks t) {
+        RedWhite x = t.on("colour a 1;colour b 1;ends a;land l 1 a 6 b 6;player p 0;player q 0;");
+        x.take(0, 0);
+        long twelves = 1;
+        for (int came = 0; came < 12; came++) {
+            int rest = 12 - came;
+            for (int n = 0; n < rest; n++) {
+                t.fraction("over behind " + came + " and " + n, x.over(n, 0), x.over(n, 1), (1L << n) - 1, 1L << n);
+            }
+            t.fraction("over behind all", x.over(rest, 0), x.over(rest, 1), 1, 1);
+            t.fraction("left behind " + came, x.left(0), x.left(1), (1L << rest) - 1, 1L << rest - 1);
+            t.fraction("likely behind " + came, x.likely(0, 0), x.likely(0, 1), (1L << rest) - 1, 1L << rest);
+            t.fraction("nobody behind " + came, x.nobody(0), x.nobody(1), 1, 1L << rest);
+            t.fraction("luck behind " + came, x.luck(0), x.luck(1), twelves >> came, twelves);
+            twelves *= 12;
+            x.come(1);
+        }
+        t.fraction("luck behind 12", x.luck(0), x.luck(1), twelves >> 12, twelves);
     }
 
     /** 20: "of like ones the first". */
@@ -604,6 +667,24 @@ final class EdgeChancesTest {
         x.come(2);
         t.due("over", x.best(0), NONE);
         t.fraction("over", x.right(0, 0), x.right(0, 1), 0, 1);
+    }
+
+    /** He wins as soon as a comes, by waiting with a as by turning to it from d, which never comes. */
+    private static void rightAtAnyLength(Checks t) {
+        String road = "colour a 1;colour b 1;colour d 1;ends a;land l 1 a 6 b 6;player p 0;player q 0;change;";
+        RedWhite waits = t.on(road);
+        RedWhite turns = t.on(road);
+        waits.take(0, 0);
+        turns.take(0, 2);
+        for (int rest = 12; rest > 0; rest--) {
+            long all = 1L << rest;
+            t.fraction("right by waiting " + rest, waits.right(0, 0), waits.right(0, 1), all - 1, all);
+            t.due("waits " + rest, waits.best(0), NONE);
+            t.fraction("right by turning " + rest, turns.right(0, 0), turns.right(0, 1), all - 1, all);
+            t.due("turns " + rest, turns.best(0), 0);
+            waits.come(1);
+            turns.come(1);
+        }
     }
 
     /** 27: "NONE: he waits, may not, it is over, no such one". */

@@ -10,6 +10,7 @@ final class EdgeTextsTest {
         words(t);
         numbers(t);
         runsOfLettersAndDigits(t);
+        numbersLikeSigns(t);
         signs(t);
         ranges(t);
         twelveAtMost(t);
@@ -97,6 +98,17 @@ final class EdgeTextsTest {
         t.sentenceFault("", "score<1or won", 1, 6);
         t.sentenceFault("", "won2", 1, 0);
         t.sentenceFault("", "notwon", 1, 0);
+    }
+
+    /** A NUMBER of three digits is no sign either, though its value is a sign's: 40 (, 41 ), 59 ;, 60 <. */
+    private static void numbersLikeSigns(Checks t) {
+        t.roadFault("goal 1 059", 1, 7);
+        t.roadFault("goal 1 59", 1, 7);
+        t.logFault("player p 0;", "comes grey 059", 1, 11);
+        t.sentenceFault("player p 0;", "score 060 1", 1, 6);
+        t.sentenceFault("player p 0;", "score 60 1", 1, 6);
+        t.sentenceFault("player p 0;", "040 won)", 1, 0);
+        t.sentenceFault("player p 0;", "(won 041", 1, 5);
     }
 
     /** Signs part words without blanks, and each may come only where it is told. */

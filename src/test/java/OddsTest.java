@@ -1,3 +1,5 @@
+import java.util.ArrayList;
+import java.util.List;
 import java.util.Random;
 
 /**
@@ -11,20 +13,40 @@ final class OddsTest {
         for (int i = 0; i < 600; i++) {
             trip(t, r, Oracle.random(r, 5));
         }
+        for (int i = 0; i < 200; i++) {
+            Oracle o = Oracle.random(r, 12);
+            o.most = 9 + i % 4;
+            o.goal = Math.max(o.goal, 3 + i % 7);
+            trip(t, r, o);
+        }
         t.finish();
     }
 
     private static void trip(Checks t, Random r, Oracle o) {
+        List<int[]> done = new ArrayList<>();
         RedWhite x = t.on(o.text());
         for (int i = 0; i < 10; i++) {
             compareNow(t, x, o);
             compareChoices(t, x, o);
             compareFair(t, x, o);
-            act(t, r, x, o);
+            act(t, r, x, o, done);
+            // An object answers 512 calls only.
+            if (i % 3 == 2) {
+                x = again(t, o, done);
+            }
         }
     }
 
-    private static void act(Checks t, Random r, RedWhite x, Oracle o) {
+    private static RedWhite again(Checks t, Oracle o, List<int[]> done) {
+        RedWhite x = t.on(o.text());
+        for (int[] act : done) {
+            int why = act[0] == 0 ? x.take(act[1], act[2]) : act[0] == 1 ? x.turn(act[1], act[2]) : x.come(act[2]);
+            t.due("done again", why, 0);
+        }
+        return x;
+    }
+
+    private static void act(Checks t, Random r, RedWhite x, Oracle o, List<int[]> done) {
         int p = r.nextInt(3);
         int c = r.nextInt(5) - 1;
         int what = r.nextInt(4);
@@ -33,6 +55,7 @@ final class OddsTest {
             t.due("take", x.take(p, c), why);
             if (why == 0) {
                 o.own[p] = c;
+                done.add(new int[] {0, p, c});
             }
         } else if (what == 1 && p < o.players && c >= 0 && c < o.colours) {
             int why = o.over() ? 1 : !o.change ? 2 : !o.mayTurn(p) ? 3 : o.holder(c) >= 0 ? 4 : 0;
@@ -40,6 +63,7 @@ final class OddsTest {
             if (why == 0) {
                 o.own[p] = c;
                 o.turned[p] = true;
+                done.add(new int[] {1, p, c});
             }
         } else if (c < o.colours) {
             boolean can = Oracle.sum(o.weightsWith(o.weights(), c < 0 ? 4 : c)) > 0;
@@ -47,6 +71,7 @@ final class OddsTest {
             t.due("come", x.come(c), why);
             if (why == 0) {
                 o.come(c);
+                done.add(new int[] {2, -1, c});
             }
         }
     }

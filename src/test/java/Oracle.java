@@ -1,10 +1,14 @@
 import java.util.ArrayList;
+import java.util.Arrays;
+import java.util.HashMap;
 import java.util.List;
+import java.util.Map;
 import java.util.Random;
 
 /**
- * A second, slow telling of the document: every row of cars is gone through one by one, nothing is
- * kept. Chances are weights: a land's chance times 12ths of each car, over all cars that may come.
+ * A second, slow telling of the document: cars are gone through one by one from each case, and what
+ * came out of a case is kept, so that long roads end too. Chances are weights: a land's chance times
+ * 12ths of each car, over all cars that may come.
  */
 final class Oracle {
     int colours;
@@ -22,6 +26,7 @@ final class Oracle {
     int[] own = {-1, -1, -1};
     final boolean[] turned = new boolean[3];
     int[] score = new int[3];
+    private final Map<String, long[]> known = new HashMap<>();
 
     /** What came out: wins of 0 to 2, nobody, cars yet, then over by the n-th car or sooner. */
     static final int NOBODY = 3;
@@ -173,6 +178,16 @@ final class Oracle {
 
     /** All ends from scores on, with holders of colours by kinds. */
     long[] ends(long[] w, int[] scores, int[] holders, int aim, int rest, int gone) {
+        String one = Arrays.toString(w) + Arrays.toString(scores) + Arrays.toString(holders) + aim + ' ' + rest + ' ' + gone;
+        long[] out = known.get(one);
+        if (out == null) {
+            out = allEnds(w, scores, holders, aim, rest, gone);
+            known.put(one, out);
+        }
+        return out;
+    }
+
+    private long[] allEnds(long[] w, int[] scores, int[] holders, int aim, int rest, int gone) {
         long[] out = new long[OVER + 13];
         int first = atGoal(scores, aim);
         if (first >= 0 || rest == 0) {
@@ -254,6 +269,18 @@ final class Oracle {
 
     /** What it is worth to p, who may turn yet, before the next car; choice[0]: where he turns now. */
     long right(int p, long[] w, int[] scores, int rest, int[] choice) {
+        String one = "right" + p + Arrays.toString(own) + Arrays.toString(w) + Arrays.toString(scores) + rest;
+        long[] out = known.get(one);
+        if (out == null) {
+            long value = bestRight(p, w, scores, rest, choice);
+            out = new long[] {value, choice[0]};
+            known.put(one, out);
+        }
+        choice[0] = (int) out[1];
+        return out[0];
+    }
+
+    private long bestRight(int p, long[] w, int[] scores, int rest, int[] choice) {
         int[] h = holders();
         long wait = 0;
         for (int kind = 0; kind < 5; kind++) {

@@ -8,7 +8,7 @@ final class RightTest {
         Checks t = new Checks();
         Random r = new Random(26);
         for (int i = 0; i < 900; i++) {
-            Oracle o = road(r, i < 30 ? 6 : 4 + r.nextInt(2));
+            Oracle o = road(r, i < 60 ? 9 + i % 4 : 4 + r.nextInt(2));
             RedWhite x = t.on(o.text());
             for (int p = 0; p < o.players; p++) {
                 int c = (p + i) % o.colours;
